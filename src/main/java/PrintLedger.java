@@ -162,7 +162,7 @@ public final class PrintLedger {
             throw new IllegalArgumentException("the piece does not lie on the sheet");
         }
         int number = jobCount;
-        if (isOutside(number, 0, jobs.length - 1)) {
+        if (number < 0 || number >= jobs.length) {
             throw new IllegalStateException("there are 20 jobs");
         }
         Job added = new Job(number, paper, sheet, copies, inks);
@@ -227,7 +227,7 @@ public final class PrintLedger {
         if (repeated.state != PRINTED) {
             throw new IllegalStateException("the job is not printed");
         }
-        if (repeated.lacking() == 0) {
+        if (repeated.made >= repeated.copies) {
             throw new IllegalStateException("nothing is lacking");
         }
         pressOf(repeated.press).insert(repeated, 0);
@@ -528,7 +528,7 @@ public final class PrintLedger {
     // ---- what all of these use
 
     private Paper paperOf(int number) {
-        Paper found = isOutside(number, 0, papers.length - 1) ? null : papers[number];
+        Paper found = number < 0 || number >= papers.length ? null : papers[number];
         if (found == null) {
             throw new IndexOutOfBoundsException("no such paper");
         }
@@ -536,7 +536,7 @@ public final class PrintLedger {
     }
 
     private Job jobOf(int number) {
-        Job found = isOutside(number, 0, jobs.length - 1) ? null : jobs[number];
+        Job found = number < 0 || number >= jobs.length ? null : jobs[number];
         if (found == null) {
             throw new IndexOutOfBoundsException("no such job");
         }
@@ -544,7 +544,7 @@ public final class PrintLedger {
     }
 
     private Press pressOf(int number) {
-        Press found = isOutside(number, 0, presses.length - 1) ? null : presses[number];
+        Press found = number < 0 || number >= presses.length ? null : presses[number];
         if (found == null) {
             throw new IndexOutOfBoundsException("no such press");
         }
@@ -611,12 +611,9 @@ public final class PrintLedger {
             leaves = sheet.wide * sheet.high - lies * wide * high;
         }
 
-        private int lacking() {
-            return Math.max(copies - made, 0);
-        }
-
         private int sheets() {
-            return divideUp(lacking(), lies);
+            int lacking = Math.max(copies - made, 0);
+            return divideUp(lacking, lies);
         }
 
         private int moneyOfInks() {
@@ -692,9 +689,10 @@ public final class PrintLedger {
             int least = Integer.MAX_VALUE;
             for (int place = from; place < waiting; place++) {
                 Job job = jobAt(place);
-                if (job != null && changeOf(job, inksIn) < least) {
+                int change = job == null ? Integer.MAX_VALUE : changeOf(job, inksIn);
+                if (change < least) {
                     best = place;
-                    least = changeOf(job, inksIn);
+                    least = change;
                 }
             }
             return best;

@@ -137,12 +137,17 @@ public final class JobTest {
         expectedIs(x, 0, 1, 3, 12, 16, 45, 76, 1585, 1981);
         x.towers(1, 3);
         expectedIs(x, 0, 1, 1, 12, 6, 35, 33, 1105, 1381);
+        // NEEDED * RUN is 3000 here, and 9990 there.
+        x.job(0, 70, 50, 91, 1);
+        expectedIs(x, 1, 0, 1, 4, 9, 100, 27, 970, 1212);
+        x.job(0, 70, 50, 313, 1);
+        expectedIs(x, 2, 0, 1, 4, 20, 333, 33, 2195, 2743);
         x.terms(7, 0);
         expectedIs(x, 0, 0, 2, 12, 11, 40, 54, 378 + 600 + 200, 1178);
         x.terms(10, 200);
         expectedIs(x, 0, 0, 2, 12, 11, 40, 54, 1340, 4020);
-        check.noPlace(x, "expected(1, 0, 0)", () -> x.expected(1, 0, 0));
-        check.noPlace(x, "expected(1, 0, 7)", () -> x.expected(1, 0, 7));
+        check.noPlace(x, "expected(3, 0, 0)", () -> x.expected(3, 0, 0));
+        check.noPlace(x, "expected(3, 0, 7)", () -> x.expected(3, 0, 7));
         check.noPlace(x, "expected(0, 3, 0)", () -> x.expected(0, 3, 0));
         check.noPlace(x, "expected(0, 3, -1)", () -> x.expected(0, 3, -1));
         check.wrongValue(x, "expected(0, 0, 7)", () -> x.expected(0, 0, 7));
@@ -267,6 +272,8 @@ public final class JobTest {
         check.wrongState(x, "nothing is lacking", () -> x.again(0));
         x.invoice(0);
         check.wrongState(x, "again of an invoiced job", () -> x.again(0));
+        quoteOfOvers(x, 100);
+        check.wrongState(x, "more than enough was made", () -> x.again(2));
         PrintLedger under = printed(95);
         under.invoice(0);
         check.wrongState(under, "again of an invoiced job that lacks some", () -> under.again(0));
@@ -302,6 +309,11 @@ public final class JobTest {
             long due = (long) quote * most[k] / copies[k];
             check.due("overs of " + copies[k], due, () -> x.invoice(job));
         }
+        // 6 sheets in 24 minutes: 240 + 200 + 30, and a quarter.
+        x.job(0, 1, 1, 1, 1);
+        x.order(6, 1);
+        x.slip(1, 24, 0);
+        check.due("one copy", 587, () -> x.invoice(6));
     }
 
     private static void invoiceOfUnders() {
@@ -311,6 +323,18 @@ public final class JobTest {
         check.due("95 of 100", 1211, () -> x.invoice(0));
         PrintLedger few = printed(94);
         check.wrongState(few, "94 of 100", () -> few.invoice(0));
+        PrintLedger little = new PrintLedger();
+        little.job(0, 70, 50, 19, 1);
+        little.order(0, 0);
+        little.buy(0, 1);
+        little.slip(0, 24, 232);
+        check.due("made", 18, () -> little.ofJob(0, 7));
+        check.wrongState(little, "18 of 19", () -> little.invoice(0));
+        little.again(0);
+        little.buy(0, 1);
+        little.slip(0, 24, 0);
+        // 19 sheets and 5 spoiled in 24 minutes: 240 + 200 + 120.
+        check.due("19 of 19", 700, () -> little.invoice(0));
         PrintLedger exact = printed(100);
         check.due("100 of 100", 1275, () -> exact.invoice(0));
     }

@@ -161,7 +161,10 @@ public final class LedgerTest {
         }
     }
 
-    /** Job 0 is printed, 1 and 2 are in the queue of press 1, 3 is new; 250 sheets of paper 2 are there. */
+    /**
+     * Job 0 is printed, 1 is queued again and 2 is behind it on press 1, 3 is new; 250 sheets of
+     * paper 2 are there. READY, RUN and SPOIL of press 1 are not those of a new one.
+     */
     private static PrintLedger busyShop() {
         PrintLedger x = new PrintLedger();
         x.towers(1, 1);
@@ -176,6 +179,9 @@ public final class LedgerTest {
         x.order(1, 1);
         x.order(2, 1);
         x.slip(1, 66, 5);
+        x.slip(1, 30, 3);
+        x.buy(2, 1);
+        x.again(1);
         return x;
     }
 
@@ -254,6 +260,9 @@ public final class LedgerTest {
         x.order(3, 2);
         x.again(1);
         x.sort(1);
+        check.due("digest()", digestByTheFace(x), x::digest);
+        x.towers(2, 4);
+        check.due("the best press is not the first", 2, () -> x.bestPress(2));
         check.due("digest()", digestByTheFace(x), x::digest);
     }
 

@@ -125,6 +125,14 @@ public final class PaperTest {
         check.due("stock is 99750", 99750, () -> x.buy(0, 39));
         check.wrongValue(x, "stock would be 100000", () -> x.buy(0, 1));
         check.due("another paper", 250, () -> x.buy(1, 1));
+        x.job(1, 70, 50, 1, 1);
+        x.order(0, 0);
+        x.slip(0, 24, 0);
+        for (int k = 0; k < 9; k++) {
+            x.buy(1, 40);
+        }
+        check.wrongValue(x, "stock would be 100249", () -> x.buy(1, 40));
+        check.due("stock is 99999", 99999, () -> x.buy(1, 39));
     }
 
     private static void allIsBought() {
@@ -197,6 +205,26 @@ public final class PaperTest {
         check.due("stock", 99750, () -> x.ofPaper(2, 3));
         check.due("no more", 0, x::buyAll);
         check.due("still short", 5280, () -> x.ofPaper(2, 5));
+        upToTheLastSheet();
+    }
+
+    private static void upToTheLastSheet() {
+        PrintLedger x = new PrintLedger();
+        x.job(0, 70, 50, 1, 1);
+        x.order(0, 0);
+        x.buy(0, 1);
+        x.slip(0, 24, 0);
+        for (int k = 0; k < 9; k++) {
+            x.buy(0, 40);
+        }
+        // RUN is 22 and SPOIL 37: 9999 + 369 + 5 sheets of each.
+        for (int k = 1; k < 11; k++) {
+            x.job(0, 70, 50, 9999, 1);
+            x.order(k, 0);
+        }
+        check.due("forecast", 103730, () -> x.ofPaper(0, 4));
+        check.due("39 lots", 39, x::buyAll);
+        check.due("stock", 99999, () -> x.ofPaper(0, 3));
     }
 
     private static void ofPaperForecasts() {

@@ -11,9 +11,11 @@ public final class PressTest {
         sortIsLess();
         sortKeepsTheFirstOfSeveral();
         sortCanBeMore();
+        sortGoesOnWithTheInksAhead();
         sortBeginsWithTheInksOfThePress();
         slipIsTold();
         slipLearns();
+        slipLearnsExactly();
         slipLearnsByPasses();
         slipWithFewSheets();
         ratesHaveEnds();
@@ -151,6 +153,16 @@ public final class PressTest {
         queueIs(x, 0, 0, 2, 1);
     }
 
+    private static void sortGoesOnWithTheInksAhead() {
+        PrintLedger x = new PrintLedger();
+        ordered(x, 0, 1);
+        ordered(x, 0, 6);
+        ordered(x, 0, 5);
+        // CHANGE is 4 + 8 + 4 before; behind 1 it is 4 of 5 and 8 of 6, behind 5 then 4 of 6.
+        check.due("sort(0)", 4, () -> x.sort(0));
+        queueIs(x, 0, 0, 2, 1);
+    }
+
     private static void sortBeginsWithTheInksOfThePress() {
         PrintLedger x = new PrintLedger();
         ordered(x, 0, 12);
@@ -207,6 +219,23 @@ public final class PressTest {
             // 28 is REST 0; 29 is REST 1, 1000 / 29 = 34; below, A is 19, 1, 0, 0 and 0.
             pressIs(x, 0, 3, ready[k], run[k], 37);
         }
+    }
+
+    private static void slipLearnsExactly() {
+        PrintLedger x = new PrintLedger();
+        x.buy(0, 1);
+        x.job(0, 70, 50, 1, 1);
+        x.order(0, 0);
+        x.slip(0, 27, 0);
+        // (90 + 3000 / 1) / 4.
+        pressIs(x, 0, 1, 20, 772, 37);
+        ordered(x, 1, 1);
+        x.slip(1, 12, 0);
+        // (60 + 8) / 4, then (51 + 0) / 4, as 3 minutes are less than the CHANGE of 4.
+        pressIs(x, 1, 1, 17, 30, 37);
+        ordered(x, 1, 2);
+        x.slip(1, 3, 0);
+        pressIs(x, 1, 2, 12, 30, 27);
     }
 
     private static void slipLearnsByPasses() {
