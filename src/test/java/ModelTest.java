@@ -1,4 +1,8 @@
-/** Long runs of calls, chosen by a fixed rule, on the program and on the Model beside it. */
+/**
+ * Long runs of calls, chosen by a fixed rule, on the program and on the Model beside it. A run has
+ * one of four kinds: any calls, long QUEUES, little STOCK (so that much is printed again), or
+ * pieces that LIE often (so that there are overs).
+ */
 public final class ModelTest {
     private static final int RUNS = 400;
     private static final int CALLS = 512;
@@ -10,8 +14,13 @@ public final class ModelTest {
     };
     private static final int[] FAR = {-1, Integer.MIN_VALUE, Integer.MAX_VALUE, 100, 10000, 20};
 
+    private static final int LONG_QUEUES = 1;
+    private static final int LITTLE_STOCK = 2;
+    private static final int SMALL_PIECES = 3;
+
     private final Check check = new Check();
     private long seed = 20261119;
+    private int kind;
 
     public static void main(String[] args) {
         ModelTest test = new ModelTest();
@@ -44,22 +53,21 @@ public final class ModelTest {
         return chosen == 4 ? most : least + next(most - least + 1);
     }
 
-    private int[] argumentsOf(String name, int jobs) {
-        int job = from(0, Math.max(0, jobs - 1));
-        int press = from(0, 2);
-        int paper = from(0, 3);
+    private int[] argumentsOf(String name, Model model) {
+        int job = jobFor(name, model);
+        int press = kind == LONG_QUEUES && next(8) > 0 ? 1 : from(0, 2);
+        int paper = kind == LITTLE_STOCK && next(8) > 0 ? 1 : from(0, 3);
         switch (name) {
             case "paper": return new int[] {paper, from(20, 99), from(20, 99), from(1, 99)};
-            case "buy": return new int[] {paper, from(1, next(2) == 0 ? 40 : 3)};
+            case "buy": return new int[] {paper, from(1, kind != LITTLE_STOCK && next(2) == 0 ? 40 : 3)};
             case "ofPaper": return new int[] {paper, from(0, 5)};
-            case "job": return new int[] {paper, from(1, next(2) == 0 ? 99 : 40), from(1, next(2) == 0 ? 99 : 40),
-                from(1, next(2) == 0 ? 9999 : 300), from(1, 15)};
+            case "job": return new int[] {paper, side(), side(), from(1, next(2) == 0 ? 9999 : 300), from(1, 15)};
             case "ofJob": return new int[] {job, from(0, 12)};
             case "expected": return new int[] {job, press, from(0, 6)};
             case "order": return new int[] {job, press};
             case "towers": return new int[] {press, from(1, 4)};
             case "ofPress": return new int[] {press, from(0, 6)};
-            case "queue": return new int[] {press, from(0, 4)};
+            case "queue": return new int[] {press, from(0, next(2) == 0 ? 4 : 1)};
             case "slip": return new int[] {press, minutes(), spoiled()};
             case "terms": return new int[] {from(1, 99), from(0, 200)};
             case "many": return new int[] {from(0, 10)};
@@ -73,6 +81,39 @@ public final class ModelTest {
         }
     }
 
+    private int side() {
+        if (kind == LITTLE_STOCK) {
+            return from(20, 50);
+        }
+        int most = kind == SMALL_PIECES ? 9 : next(2) == 0 ? 99 : 40;
+        return from(1, most);
+    }
+
+    /** Mostly one that is in the state that the call asks for. */
+    private int jobFor(String name, Model model) {
+        int jobs = (int) model.call("many", 0);
+        boolean printed = name.equals("again") || name.equals("invoice");
+        if (next(4) == 0 || !printed && !name.equals("order")) {
+            return from(0, Math.max(0, jobs - 1));
+        }
+        int start = next(20);
+        for (int k = 0; k < 20; k++) {
+            int job = (start + k) % 20;
+            if (job < jobs && model.call("ofJob", job, 6) == (printed ? 2 : 0)) {
+                return job;
+            }
+        }
+        return from(0, 19);
+    }
+
+    private String chosenName() {
+        String name = NAMES[next(NAMES.length)];
+        if (kind == LITTLE_STOCK && (name.equals("buyAll") || name.equals("invoice") && next(4) > 0)) {
+            return "slip";
+        }
+        return kind == LONG_QUEUES && name.equals("slip") && next(4) > 0 ? "order" : name;
+    }
+
     private int minutes() {
         int chosen = next(4);
         return from(1, chosen == 0 ? 9999 : chosen == 1 ? 1000 : 100);
@@ -80,7 +121,8 @@ public final class ModelTest {
 
     private int spoiled() {
         int chosen = next(4);
-        return from(0, chosen == 0 ? 9999 : chosen == 1 ? 300 : 20);
+        int most = chosen == 0 ? 9999 : chosen == 1 ? 300 : 20;
+        return from(0, kind == LITTLE_STOCK ? most / 10 : most);
     }
 
     private static double ask(PrintLedger x, String name, int[] a) {
@@ -112,9 +154,11 @@ public final class ModelTest {
     private void run(int run) {
         PrintLedger x = new PrintLedger();
         Model model = new Model();
-        for (int k = 0; k < CALLS; k++) {
-            String name = NAMES[next(NAMES.length)];
-            int[] a = argumentsOf(name, (int) model.call("many", 0));
+        kind = run % 4;
+        int digests = 0;
+        for (int k = 0; k + digests < CALLS; k++) {
+            String name = chosenName();
+            int[] a = argumentsOf(name, model);
             String call = "run " + run + ", call " + k + ": " + name + java.util.Arrays.toString(a);
             String due = outcome(() -> model.call(name, a));
             String got = outcome(() -> ask(x, name, a));
@@ -124,6 +168,7 @@ public final class ModelTest {
             }
             if (k % 16 == 15 || got.startsWith("throws") && k % 4 == 0) {
                 check.due(call + ", then digest()", model.digest(), x::digest);
+                digests++;
             }
         }
     }
