@@ -85,7 +85,7 @@ final class Check {
         for (int value = least; value <= most; value++) {
             answered(call + " with " + value, shops.get(), value, asked);
         }
-        int[] outside = {least - 1, most + 1, Integer.MIN_VALUE, Integer.MAX_VALUE};
+        int[] outside = {least - 1, most + 1, -1, Integer.MIN_VALUE, Integer.MAX_VALUE};
         for (int value : outside) {
             PrintLedger shop = shops.get();
             refused(shop, call + " with " + value, want, () -> asked.answer(shop, value));

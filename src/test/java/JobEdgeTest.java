@@ -1,4 +1,7 @@
-/** The boundary cases of promises 6 to 11, of paragraphs 2 and 5 of 'Terms' and of EXPECTED, each sentence by itself. */
+/**
+ * The boundary cases of promises 6 to 11, of paragraphs 2 and 5 of 'Terms' and of EXPECTED, each
+ * sentence by itself.
+ */
 public final class JobEdgeTest {
     private static final Check check = new Check();
 
@@ -17,6 +20,7 @@ public final class JobEdgeTest {
         spoiledIsCut();
         minutesAreCut();
         quoteIsCut();
+        productsGreaterThanAnInt();
         expectedOfNothingLacking();
         expectedOfOneQueuedAgain();
         orderOfANewJobOnly();
@@ -286,6 +290,11 @@ public final class JobEdgeTest {
         expected(59, 1, 3, 66);
         expected(60, 1, 3, 68);
         expected(60, 1, 4, 26);
+        // NEEDED is 100 and 333: 3000, which is just 3, and 9990.
+        expected(91, 1, 3, 100);
+        expected(91, 1, 4, 27);
+        expected(313, 1, 3, 333);
+        expected(313, 1, 4, 33);
         // NEEDED is 16, 17 and 33 in two PASSES: 960, 1020 and 1980, all PASSES ahead of the cut.
         expected(6, 7, 4, 52);
         expected(7, 7, 4, 53);
@@ -311,6 +320,44 @@ public final class JobEdgeTest {
             int what = k;
             check.due("expected(0, " + press + ", " + k + ")", want[k], () -> x.expected(0, press, what));
         }
+    }
+
+    /** "Products ahead of a / can be greater than an int": COST * 300, and QUOTE * pieces. */
+    private static void productsGreaterThanAnInt() {
+        PrintLedger x = new PrintLedger();
+        x.paper(3, 99, 99, 99);
+        for (int k = 0; k < 6; k++) {
+            x.job(3, 99, 99, 1, 1);
+            x.order(k, 0);
+            x.buy(3, 40);
+            x.slip(0, 9999, 9999);
+        }
+        // Six times (3 * RUN + 997) / 4 and (3 * SPOIL + 999) / 4.
+        check.due("run", 823, () -> x.ofPress(0, 3));
+        check.due("spoil", 829, () -> x.ofPress(0, 4));
+        x.towers(0, 1);
+        x.terms(99, 200);
+        int job = x.job(3, 99, 99, 9999, 15);
+        int cost = x.expected(job, 0, 5);
+        if (cost < 7_200_000) {
+            check.report("the cost is not great enough for this test: " + cost);
+        }
+        check.due("a great quote", 3L * cost, () -> x.expected(job, 0, 6));
+        int quote = x.order(job, 0);
+        check.due("a great quote ordered", 3L * cost, () -> quote);
+        x.buy(3, 40);
+        check.due("all good", 9999, () -> x.slip(0, 1, 0));
+        check.due("a great invoice", quote, () -> x.invoice(job));
+        PrintLedger dear = new PrintLedger();
+        dear.paper(0, 70, 50, 99);
+        Shops.whole(dear, 9999, 1);
+        // 10503 sheets in 339 minutes: 3390 + 200 + 1039797.
+        check.due("QUOTE", 1304233, () -> dear.order(0, 0));
+        Shops.buyLots(dear, 0, 38);
+        dear.slip(0, 339, 0);
+        check.due("MADE", 9500, () -> dear.ofJob(0, 7));
+        check.due("profit", 1239145 - 3390 - 200 - 9500 * 99, () -> dear.profit(0));
+        check.due("INVOICE of 9500", 1239145, () -> dear.invoice(0));
     }
 
     /** EXPECTED holds for every JOB, also for one of which nothing is LACKING. */

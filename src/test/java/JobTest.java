@@ -9,7 +9,6 @@ public final class JobTest {
         twentyJobs();
         ofJobTells();
         expectedIsTold();
-        expectedOfGreatNumbers();
         expectedOfNothingLacking();
         orderQueues();
         againIsFirst();
@@ -156,34 +155,6 @@ public final class JobTest {
             check.noPlace(x, "expected(0, " + far + ", 0)", () -> x.expected(0, far, 0));
             check.wrongValue(x, "expected(0, 0, " + far + ")", () -> x.expected(0, 0, far));
         }
-    }
-
-    /** COST * 300 and QUOTE * pieces are greater than an int here. */
-    private static void expectedOfGreatNumbers() {
-        PrintLedger x = new PrintLedger();
-        x.paper(3, 99, 99, 99);
-        for (int k = 0; k < 6; k++) {
-            x.job(3, 99, 99, 1, 1);
-            x.order(k, 0);
-            x.buy(3, 40);
-            x.slip(0, 9999, 9999);
-        }
-        // Six times (3 * RUN + 997) / 4 and (3 * SPOIL + 999) / 4.
-        check.due("run", 823, () -> x.ofPress(0, 3));
-        check.due("spoil", 829, () -> x.ofPress(0, 4));
-        x.towers(0, 1);
-        x.terms(99, 200);
-        int job = x.job(3, 99, 99, 9999, 15);
-        int cost = x.expected(job, 0, 5);
-        if (cost < 7_200_000) {
-            check.report("the cost is not great enough for this test: " + cost);
-        }
-        check.due("a great quote", 3L * cost, () -> x.expected(job, 0, 6));
-        int quote = x.order(job, 0);
-        check.due("a great quote ordered", 3L * cost, () -> quote);
-        x.buy(3, 40);
-        check.due("all good", 9999, () -> x.slip(0, 1, 0));
-        check.due("a great invoice", quote, () -> x.invoice(job));
     }
 
     private static void expectedOfNothingLacking() {

@@ -99,7 +99,7 @@ public final class LedgerEdgeTest {
         manyAre(x, 20, 0, 0, 0, 20, -1250 + 20 * (587 - 440), 20 * 587, 20 * 445, 230 * 5, 20 * 24, 0);
     }
 
-    /** "6 the money of all INVOICES together, 7 what all JOBS COST together, .. 9 all MINUTES .., 10 all .. SPOILED". */
+    /** "6 the money of all INVOICES, 7 what all JOBS COST together, .. 9 all MINUTES .., 10 all .. SPOILED". */
     private static void manyOfAllTogether() {
         PrintLedger x = Shops.threePrinted();
         int minutes = 3 * 50;

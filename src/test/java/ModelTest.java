@@ -156,7 +156,7 @@ public final class ModelTest {
         Model model = new Model();
         kind = run % 4;
         int digests = 0;
-        for (int k = 0; k + digests < CALLS; k++) {
+        for (int k = 0; k + digests < CALLS - 1; k++) {
             String name = chosenName();
             int[] a = argumentsOf(name, model);
             String call = "run " + run + ", call " + k + ": " + name + java.util.Arrays.toString(a);

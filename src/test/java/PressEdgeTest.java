@@ -28,6 +28,7 @@ public final class PressEdgeTest {
         inksOfTheSlipAndNoOthers();
         restOfNone();
         restBelowNone();
+        minutesUpToTheChange();
         runAtItsEnds();
         readyAtItsLeast();
         spoilAtItsEnds();
@@ -359,7 +360,7 @@ public final class PressEdgeTest {
         pressIs(slipped(100, 15, 58, 0), 0, 2, 15, 20, 25, 37);
     }
 
-    /** "otherwise READY becomes (3 * READY + A) / 4, with A as MINUTES less CHANGE, if that is above 0, otherwise 0". */
+    /** "otherwise READY becomes (3 * READY + A) / 4, with A as MINUTES less CHANGE, .. / PASSES". */
     private static void restBelowNone() {
         // REST is -1: A is 19; then A is 4, 3, 1, 0 and 0 again for less than the CHANGE.
         pressIs(slipped(100, 1, 23, 0), 0, 2, 1, 19, 30, 37);
@@ -373,6 +374,20 @@ public final class PressEdgeTest {
         pressIs(slipped(100, 15, 25, 0), 0, 2, 15, 16, 30, 37);
         pressIs(slipped(100, 15, 23, 0), 0, 2, 15, 15, 30, 37);
         pressIs(slipped(100, 15, 1, 0), 0, 2, 15, 15, 30, 37);
+    }
+
+    /** "MINUTES less CHANGE, if that is above 0, otherwise 0": READY 17 becomes 51 / 4, and 52 / 4 by one more. */
+    private static void minutesUpToTheChange() {
+        int[] minutes = {1, 3, 4, 5};
+        int[] ready = {12, 12, 12, 13};
+        for (int k = 0; k < minutes.length; k++) {
+            PrintLedger x = slipped(1, 1, 12, 0);
+            check.due("READY at first", 17, () -> x.ofPress(0, 2));
+            Shops.wholeOrdered(x, 1, 2, 0);
+            x.slip(0, minutes[k], 0);
+            check.due("READY behind " + minutes[k], ready[k], () -> x.ofPress(0, 2));
+            check.due("RUN stays", 30, () -> x.ofPress(0, 3));
+        }
     }
 
     /** "READY and RUN are 1 at the least, 999 at most". */
